@@ -113,6 +113,8 @@ public final class PromiseTests {
     readings(x, 6, 0, 0, 1);
     due("101st of all", x.read(7, 0, 0), false);
     due("101st of all in a group with nineteen", x.read(5, 0, 0), false);
+    x.place(3);
+    due("101st of all, of a place with few", x.read(7, 0, 3), false);
     due("all", x.place(NONE), 100);
     due("empty(0)", x.empty(0), 7);
   }
@@ -253,6 +255,16 @@ public final class PromiseTests {
     due("fill(2) in a place without readings", z.fill(2), NONE);
     z.place(1);
     due("marked(2)", z.marked(2), true);
+    // A group is not empty when another class of it has the readings.
+    AgeKeys w = new AgeKeys(4, 1);
+    readings(w, 3, 0, 0, 1);
+    readings(w, 0, 0, 0, 1);
+    due("joined(3, 1)", w.joined(3, 1), 1);
+    readings(w, 1, 0, 0, 1);
+    due("fill(3)", w.fill(3), NONE);
+    due("joined(2, 1)", w.joined(2, 1), 1);
+    due("fill(2)", w.fill(2), NONE);
+    due("marked(2)", w.marked(2), false);
   }
 
   private static void promise7Marked() {
@@ -277,9 +289,13 @@ public final class PromiseTests {
     x.place(0);
     due("marked(1)", x.marked(1), true);
     share(x, 1, 0, 1, 1);
+    readings(x, 1, 1, 2, 1);
+    x.place(2);
+    due("marked(3)", x.marked(3), false);
+    x.place(0);
     due("empty(0)", x.empty(0), 2);
     // Filled by one that has none now it is marked still.
-    x.place(2);
+    x.place(3);
     due("marked(3)", x.marked(3), true);
     share(x, 3, 0, NONE, NONE);
   }
@@ -312,7 +328,14 @@ public final class PromiseTests {
     share(x, 7, 1, 1, 1);
     x.place(NONE);
     share(x, 2, 0, 11, 20);
-    due("groups()", x.groups(), 4);
+    share(x, 2, 1, 9, 20);
+    readings(x, 6, 0, 0, 1);
+    readings(x, 4, 0, 0, 1);
+    readings(x, 6, 1, 0, 1);
+    due("joined(4, 6)", x.joined(6, 4), 4);
+    share(x, 4, 0, 2, 3);
+    due("joined(3, 4) of 23", x.joined(3, 4), NONE);
+    due("groups()", x.groups(), 3);
 
     // What is joined is not filled, nor what was filled by one of both; other fills stay.
     AgeKeys y = new AgeKeys(9, 1);
@@ -414,6 +437,21 @@ public final class PromiseTests {
     raised(x, 10, 2, 10, 1);
     x.place(NONE);
     raised(x, 10, 0, 5, 6);
+    // Filled by one that is empty now.
+    x.place(3);
+    readings(x, 1, 0, 3, 1);
+    raised(x, 10, 0, NONE, NONE);
+    // A class with some measured has its group's share, be it of one reading.
+    AgeKeys w = new AgeKeys(4, 2);
+    readings(w, 1, 0, 0, 1);
+    due("sample(3, 4)", w.sample(3, 4), true);
+    raised(w, 6, 0, NONE, NONE);
+    due("joined(1, 3)", w.joined(1, 3), 1);
+    raised(w, 6, 0, 6, 1);
+    raised(w, 6, 1, 0, 1);
+    readings(w, 3, 1, 0, 2);
+    raised(w, 6, 0, 2, 1);
+    due("sums(6)", w.sums(6), true);
 
     // Sizes of groups with hardly a common divisor, and the greatest numbers: one reading of each is of age 0.
     AgeKeys y = new AgeKeys(10, 6);
@@ -505,6 +543,9 @@ public final class PromiseTests {
     due("joined(1, 3)", x.joined(1, 3), 1);
     without(x, 3, 2, 0, 1, 3);
     without(x, 1, 2, 1, 4, 9);
+    readings(x, 3, 0, 0, 1);
+    without(x, 3, 0, 0, 1, 10);
+    without(x, 3, 0, 1, 1, 5);
   }
 
   private static void promise13Error() {
@@ -696,6 +737,8 @@ public final class PromiseTests {
     length(x, 4, 5, 1, 1);
     length(x, 0, 4, 1, 2);
     length(x, 3, NONE, NONE, 0);
+    readings(x, 9, 0, 3, 2);
+    length(x, 0, 4, 1, 2);
     // A reading keeps its class when this is joined, and filling counts for nothing here.
     due("joined(9, 1)", x.joined(9, 1), 1);
     length(x, 0, 4, 1, 2);
@@ -753,6 +796,9 @@ public final class PromiseTests {
     due("sex(3, 0, 0)", x.sex(3, 0, 0), true);
     males(x, 0, NONE, NONE);
     due("sex(3, 1, 2)", x.sex(3, 1, 2), true);
+    males(x, 0, 1, 2);
+    due("sex(2, 1, 1)", x.sex(2, 1, 1), true);
+    males(x, 2, 1, 1);
     due("part 2", x.males(0, 2), NONE);
     due("part -1", x.males(0, -1), NONE);
     males(x, 4, NONE, NONE);
