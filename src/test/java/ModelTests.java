@@ -9,7 +9,8 @@ import java.util.List;
  */
 public final class ModelTests {
   private static final int RUNS = 1500;
-  private static final int CALLS = 500;
+  // What an object answers after its 512th call is free.
+  private static final int MOST_CALLS = 512;
   private static int wrong = 0;
 
   record Fraction(BigInteger above, BigInteger below) implements Comparable<Fraction> {
@@ -386,8 +387,10 @@ public final class ModelTests {
   }
 
   private static int run;
+  private static int calls;
 
   private static void due(String call, long got, long want) {
+    calls++;
     if (got == want) return;
     wrong++;
     if (wrong <= 20) System.out.println("run " + run + ": " + call + " answered " + got + ", due is " + want);
@@ -455,7 +458,7 @@ public final class ModelTests {
     } else {
       for (int i = 0; i < 20; i++) row[d.below(3) == 0 ? d.below(m.ages) : from]++;
     }
-    for (int to = 0; to < m.ages; to++) error(x, m, from, to, row[to]);
+    for (int to = 0; to < m.ages && calls < MOST_CALLS; to++) error(x, m, from, to, row[to]);
   }
 
   private static void ask(AgeKeys x, Model m, Dice d) {
@@ -495,7 +498,8 @@ public final class ModelTests {
     Model m = new Model(classes, ages);
     // Some runs read few classes, so that the others are empty for long.
     int mostReads = d.below(2) == 0 ? 10 : 1 + d.below(5);
-    for (int call = 0; call < CALLS; call++) {
+    calls = 0;
+    while (calls < MOST_CALLS) {
       if (d.below(3) == 0) change(x, m, d, mostReads);
       else ask(x, m, d);
     }
